@@ -448,22 +448,15 @@ public final class WorkPlans {
         /** Each look along the row but the last leaves one busy time more behind for good. */
         private int firstBegin(int machine, int ready, int hours) {
             int begin = ready;
-            for (int look = 0; look <= MOST_BUSY; look++) {
-                int later = behindBusy(machine, begin, hours);
-                if (later == begin) {
-                    return begin;
-                }
-                begin = later;
-            }
-            return begin;
-        }
-
-        private int behindBusy(int machine, int ready, int hours) {
-            int begin = ready;
             int row = machine * MOST_BUSY;
-            for (int i = row; i < row + busyCount[machine]; i++) {
-                if (shareAnHour(begin, begin + hours, busyFrom[i], busyTo[i])) {
-                    begin = busyTo[i];
+            boolean moved = true;
+            for (int look = 0; look <= MOST_BUSY && moved; look++) {
+                moved = false;
+                for (int i = row; i < row + busyCount[machine]; i++) {
+                    if (shareAnHour(begin, begin + hours, busyFrom[i], busyTo[i])) {
+                        begin = busyTo[i];
+                        moved = true;
+                    }
                 }
             }
             return begin;
@@ -505,7 +498,6 @@ public final class WorkPlans {
             for (int job = 0; job < shop.jobs; job++) {
                 aloneOf[job] = floor.costAlone(job);
                 bound += aloneOf[job];
-                isBegun[job] = false;
             }
             orderByDue();
             bestCost = floor.costInOrder(best, shop.jobs);
