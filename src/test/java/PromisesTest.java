@@ -1,10 +1,10 @@
 /** Each promise by hand: ordinary inputs, the edges that the document names, and wrong inputs. */
 public final class PromisesTest {
-    private static final Class<IndexOutOfBoundsException> INDEX = IndexOutOfBoundsException.class;
-    private static final Class<IllegalArgumentException> ARGUMENT = IllegalArgumentException.class;
-    private static final Class<IllegalStateException> STATE = IllegalStateException.class;
-    private static final int LOW = Integer.MIN_VALUE;
-    private static final int HIGH = Integer.MAX_VALUE;
+    private static final Class<IndexOutOfBoundsException> INDEX = Expect.INDEX;
+    private static final Class<IllegalArgumentException> ARGUMENT = Expect.ARGUMENT;
+    private static final Class<IllegalStateException> STATE = Expect.STATE;
+    private static final int LOW = Shops.LOW;
+    private static final int HIGH = Shops.HIGH;
 
     public static void main(String[] args) {
         promise1NewObject();
@@ -33,29 +33,6 @@ public final class PromisesTest {
         promise15RulesApart();
         fullShop();
         Expect.end("PromisesTest");
-    }
-
-    /** A shop of one machine of kind 0 and one job of one step for each pair of due hour and hours, weights 1. */
-    private static WorkPlans oneMachine(int... duesAndHours) {
-        WorkPlans w = new WorkPlans(1);
-        w.machine(0);
-        for (int i = 0; i + 1 < duesAndHours.length; i += 2) {
-            w.step(w.job(duesAndHours[i], 1), 0, duesAndHours[i + 1], 0);
-        }
-        return w;
-    }
-
-    private static void orderIs(String what, WorkPlans w, int... jobs) {
-        for (int k = 0; k < jobs.length; k++) {
-            int place = k;
-            Expect.answers(what + ": order(" + k + ")", jobs[k], () -> w.order(place));
-        }
-        Expect.refuses(what + ": order behind the last", INDEX, () -> w.order(jobs.length));
-    }
-
-    private static void isAt(String what, WorkPlans w, int step, int hour, int machine) {
-        Expect.answers(what + ": at(" + step + ", 0)", hour, () -> w.at(step, 0));
-        Expect.answers(what + ": at(" + step + ", 1)", machine, () -> w.at(step, 1));
     }
 
     private static void promise1NewObject() {
@@ -96,7 +73,7 @@ public final class PromisesTest {
             int draws = first;
             Expect.answers("seed " + seed + ": before the first change", 0, () -> w.improve(draws - 1));
             Expect.answers("seed " + seed + ": the first change", 1, () -> w.improve(1));
-            orderIs("seed " + seed, w, 1, 0);
+            Shops.orderIs("seed " + seed, w, 1, 0);
         }
     }
 
@@ -113,7 +90,7 @@ public final class PromisesTest {
         Expect.refuses("a seventh machine of no kind", ARGUMENT, () -> w.machine(4));
         w.step(w.job(0, 0), 3, 1, 0);
         w.run(1);
-        isAt("the only machine of kind 3", w, 0, 0, 3);
+        Shops.isAt("the only machine of kind 3", w, 0, 0, 3);
     }
 
     private static void promise3Out() {
@@ -141,20 +118,20 @@ public final class PromisesTest {
     }
 
     private static void promise3OutHours() {
-        WorkPlans w = oneMachine(0, 3);
+        WorkPlans w = Shops.oneMachine(0, 3);
         w.out(0, 3, 5);
         w.run(1);
-        isAt("a step ends where a span begins", w, 0, 0, 0);
+        Shops.isAt("a step ends where a span begins", w, 0, 0, 0);
         w.out(0, 2, 3);
         w.run(1);
-        isAt("a step begins where a span ends", w, 0, 5, 0);
+        Shops.isAt("a step begins where a span ends", w, 0, 5, 0);
         w.out(0, 7, 8);
         w.out(0, 10, 12);
         w.run(1);
-        isAt("gaps that are too short", w, 0, 12, 0);
+        Shops.isAt("gaps that are too short", w, 0, 12, 0);
         w.out(0, 0, 2000);
         w.run(1);
-        isAt("spans may share hours", w, 0, 2000, 0);
+        Shops.isAt("spans may share hours", w, 0, 2000, 0);
     }
 
     private static void promise4Job() {
@@ -176,24 +153,19 @@ public final class PromisesTest {
     }
 
     private static void promise5Due() {
-        WorkPlans w = oneMachine(4, 3);
+        WorkPlans w = Shops.oneMachine(4, 3);
         for (int job : new int[] {-1, 1, 6, LOW, HIGH}) {
-            Expect.refuses("due of job " + job, INDEX, () -> tellDue(w, job, 5));
-            Expect.refuses("a wrong due of job " + job, INDEX, () -> tellDue(w, job, -1));
+            Expect.refuses("due of job " + job, INDEX, () -> Shops.tellDue(w, job, 5));
+            Expect.refuses("a wrong due of job " + job, INDEX, () -> Shops.tellDue(w, job, -1));
         }
         for (int due : new int[] {-1, 10001, LOW, HIGH}) {
-            Expect.refuses("due(0, " + due + ")", ARGUMENT, () -> tellDue(w, 0, due));
+            Expect.refuses("due(0, " + due + ")", ARGUMENT, () -> Shops.tellDue(w, 0, due));
         }
         Expect.answers("due as before", 0, () -> w.alone(0));
-        Expect.answers("due(0, 0)", 0, () -> tellDue(w, 0, 0));
+        Expect.answers("due(0, 0)", 0, () -> Shops.tellDue(w, 0, 0));
         Expect.answers("due at 0", 3, () -> w.alone(0));
-        Expect.answers("due(0, 10000)", 0, () -> tellDue(w, 0, 10000));
+        Expect.answers("due(0, 10000)", 0, () -> Shops.tellDue(w, 0, 10000));
         Expect.answers("due at 10000", 0, () -> w.alone(0));
-    }
-
-    private static long tellDue(WorkPlans w, int job, int due) {
-        w.due(job, due);
-        return 0;
     }
 
     private static void promise6Step() {
@@ -233,37 +205,37 @@ public final class PromisesTest {
         w.step(second, 1, 6, 0);
         w.step(second, 0, 7, 0);
         w.run(1);
-        isAt("of several machines the least", w, 0, 0, 1);
-        isAt("behind end and wait", w, 1, 6, 0);
-        isAt("behind a long wait", w, 2, 59, 1);
-        isAt("the machine where it begins first", w, 3, 0, 2);
-        isAt("a gap that is too short is left", w, 4, 9, 0);
-        isAt("an equal hour on the lesser machine", w, 5, 15, 1);
+        Shops.isAt("of several machines the least", w, 0, 0, 1);
+        Shops.isAt("behind end and wait", w, 1, 6, 0);
+        Shops.isAt("behind a long wait", w, 2, 59, 1);
+        Shops.isAt("the machine where it begins first", w, 3, 0, 2);
+        Shops.isAt("a gap that is too short is left", w, 4, 9, 0);
+        Shops.isAt("an equal hour on the lesser machine", w, 5, 15, 1);
         Expect.answers("the wait behind the last step is not in the end", 55 + 16, () -> w.about(0));
 
-        WorkPlans gap = oneMachine(0, 1);
+        WorkPlans gap = Shops.oneMachine(0, 1);
         gap.step(0, 0, 1, 0);
         int late = gap.job(1, 1);
         gap.step(late, 0, 4, 0);
         gap.out(0, 1, 5);
         gap.run(1);
-        isAt("the second step behind the span", gap, 1, 5, 0);
-        isAt("a job behind both", gap, 2, 6, 0);
+        Shops.isAt("the second step behind the span", gap, 1, 5, 0);
+        Shops.isAt("a job behind both", gap, 2, 6, 0);
         gap.step(gap.job(2, 1), 0, 1, 0);
         gap.out(0, 8, 9);
         gap.run(1);
-        isAt("a step too long for the gap", gap, 2, 9, 0);
-        isAt("a later job may begin in an earlier gap", gap, 3, 6, 0);
+        Shops.isAt("a step too long for the gap", gap, 2, 9, 0);
+        Shops.isAt("a later job may begin in an earlier gap", gap, 3, 6, 0);
     }
 
     private static void promise7Run() {
-        WorkPlans w = oneMachine(9, 4, 3, 3, 9, 1, 3, 2);
+        WorkPlans w = Shops.oneMachine(9, 4, 3, 3, 9, 1, 3, 2);
         Expect.answers("one node is not enough", 1, () -> w.run(1));
-        orderIs("by due, of several the lesser first", w, 1, 3, 0, 2);
+        Shops.orderIs("by due, of several the lesser first", w, 1, 3, 0, 2);
         Expect.answers("cost by due", 0 + 2 + 0 + 1, () -> w.about(0));
         Expect.answers("closed", 0, () -> w.run(2000));
         Expect.answers("the best cost", 2 + 1, () -> w.about(0));
-        orderIs("an equal cost is not better", w, 1, 3, 0, 2);
+        Shops.orderIs("an equal cost is not better", w, 1, 3, 0, 2);
 
         WorkPlans heavy = new WorkPlans(0);
         heavy.machine(0);
@@ -271,36 +243,36 @@ public final class PromisesTest {
         heavy.step(heavy.job(3, 5), 0, 2, 0);
         heavy.step(heavy.job(4, 2), 0, 1, 0);
         Expect.answers("weights: closed", 0, () -> heavy.run(2000));
-        orderIs("weights: the best order", heavy, 1, 2, 0);
+        Shops.orderIs("weights: the best order", heavy, 1, 2, 0);
         Expect.answers("weights: the best cost", 5, () -> heavy.about(0));
     }
 
     private static void promise7Nodes() {
         // ALONE is 0 and 0, by due the cost is 1: both jobs are gone on from, and no order is better.
-        WorkPlans w = oneMachine(4, 4, 5, 2);
+        WorkPlans w = Shops.oneMachine(4, 4, 5, 2);
         Expect.answers("0, 0 1, 1, 1 0", 4, () -> nodesOf(w, 2000));
         Expect.answers("as many nodes as told are enough", 0, () -> w.run(4));
         Expect.answers("one less is not", 1, () -> w.run(3));
         Expect.answers("the node too many is not counted", 3, () -> w.about(2));
 
         // On a machine each the first order costs as much as ALONE of both: both jobs are left at once.
-        WorkPlans apart = oneMachine(0, 5);
+        WorkPlans apart = Shops.oneMachine(0, 5);
         apart.machine(1);
         apart.step(apart.job(0, 1), 1, 7, 0);
         Expect.answers("0, 1", 2, () -> nodesOf(apart, 2000));
 
         // By due it costs 1 + 2 + 11; behind the long job each short one is left, with all of its orders.
-        WorkPlans shortFirst = oneMachine(0, 1, 0, 1, 0, 9);
+        WorkPlans shortFirst = Shops.oneMachine(0, 1, 0, 1, 0, 9);
         Expect.answers("all but 2 0 1 and 2 1 0", 13, () -> nodesOf(shortFirst, 2000));
 
         // By due it costs 9 + 10 + 11; node 8 is the better 1 0 2 of 22, node 10 the best 1 2 0 of 14.
-        WorkPlans longFirst = oneMachine(0, 9, 0, 1, 0, 1);
+        WorkPlans longFirst = Shops.oneMachine(0, 9, 0, 1, 0, 1);
         Expect.answers("all", 15, () -> nodesOf(longFirst, 2000));
-        orderIs("the first of equal ones", longFirst, 1, 2, 0);
+        Shops.orderIs("the first of equal ones", longFirst, 1, 2, 0);
         Expect.answers("up to 1 2 0", 1, () -> longFirst.run(10));
-        orderIs("ended behind the best", longFirst, 1, 2, 0);
+        Shops.orderIs("ended behind the best", longFirst, 1, 2, 0);
         Expect.answers("up to 1 2", 1, () -> longFirst.run(9));
-        orderIs("ended before it", longFirst, 1, 0, 2);
+        Shops.orderIs("ended before it", longFirst, 1, 0, 2);
     }
 
     private static long nodesOf(WorkPlans w, int nodes) {
@@ -329,22 +301,22 @@ public final class PromisesTest {
     }
 
     private static void promise8Improve() {
-        WorkPlans w = oneMachine(1, 9, 2, 1);
+        WorkPlans w = Shops.oneMachine(1, 9, 2, 1);
         w.run(1);
         Expect.answers("cost by due", 8 + 8, () -> w.about(0));
         Expect.answers("improve(0)", 0, () -> w.improve(0));
         Expect.answers("a hundred draws find the only change", 1, () -> w.improve(100));
-        orderIs("improved", w, 1, 0);
+        Shops.orderIs("improved", w, 1, 0);
         Expect.answers("the lesser cost", 9, () -> w.about(0));
-        isAt("improved", w, 0, 1, 0);
-        isAt("improved", w, 1, 0, 0);
+        Shops.isAt("improved", w, 0, 1, 0);
+        Shops.isAt("improved", w, 1, 0, 0);
         Expect.answers("none costs less", 0, () -> w.improve(100));
         Expect.answers("the plan may be asked on", 10, () -> w.promise(0));
 
-        WorkPlans even = oneMachine(1, 3, 1, 3);
+        WorkPlans even = Shops.oneMachine(1, 3, 1, 3);
         even.run(1);
         Expect.answers("an equal cost is no change", 0, () -> even.improve(100));
-        orderIs("an equal cost", even, 0, 1);
+        Shops.orderIs("an equal cost", even, 0, 1);
 
         WorkPlans parts = sixJobs();
         WorkPlans whole = sixJobs();
@@ -359,7 +331,7 @@ public final class PromisesTest {
     }
 
     private static WorkPlans sixJobs() {
-        WorkPlans w = oneMachine(4, 13, 5, 8, 6, 5, 7, 3, 8, 2, 9, 1);
+        WorkPlans w = Shops.oneMachine(4, 13, 5, 8, 6, 5, 7, 3, 8, 2, 9, 1);
         w.run(1);
         return w;
     }
@@ -398,7 +370,7 @@ public final class PromisesTest {
     }
 
     private static void promise8Refusals() {
-        WorkPlans w = oneMachine(1, 9, 2, 1);
+        WorkPlans w = Shops.oneMachine(1, 9, 2, 1);
         Expect.refuses("no plan", STATE, () -> w.improve(1));
         for (int n : new int[] {-1, 101, LOW, HIGH}) {
             Expect.refuses("improve(" + n + ") without a plan", ARGUMENT, () -> w.improve(n));
@@ -409,9 +381,9 @@ public final class PromisesTest {
     /** Each thing told makes a call throw until the next run; what is refused does not. */
     private static void staleByEachTelling(String what, Expect.Call wanted, WorkPlans w, Expect.Call call) {
         Expect.Call[] tellings = {() -> w.machine(3), () -> w.out(0, 900, 901), () -> w.job(0, 0),
-            () -> tellDue(w, 0, 1), () -> w.step(0, 0, 1, 0)};
+            () -> Shops.tellDue(w, 0, 1), () -> w.step(0, 0, 1, 0)};
         Expect.Call[] refused = {() -> w.machine(4), () -> w.out(0, 5, 5), () -> w.job(0, 101),
-            () -> tellDue(w, 9, 1), () -> w.step(0, 0, 0, 0), () -> w.run(0)};
+            () -> Shops.tellDue(w, 9, 1), () -> w.step(0, 0, 0, 0), () -> w.run(0)};
         for (int i = 0; i < tellings.length; i++) {
             w.run(1);
             Expect.same(what + " of a fresh plan " + i, Expect.told(wanted), Expect.told(call));
@@ -427,13 +399,13 @@ public final class PromisesTest {
     }
 
     private static void promise9At() {
-        WorkPlans w = oneMachine(9, 4, 3, 3);
+        WorkPlans w = Shops.oneMachine(9, 4, 3, 3);
         Expect.refuses("no plan", STATE, () -> w.at(0, 0));
         Expect.refuses("no plan, no such what", INDEX, () -> w.at(0, 2));
         Expect.refuses("no plan, no such step", INDEX, () -> w.at(2, 0));
         w.run(9);
-        isAt("the first", w, 1, 0, 0);
-        isAt("the second", w, 0, 3, 0);
+        Shops.isAt("the first", w, 1, 0, 0);
+        Shops.isAt("the second", w, 0, 3, 0);
         for (int step : new int[] {-1, 2, 24, LOW, HIGH}) {
             Expect.refuses("at(" + step + ", 0)", INDEX, () -> w.at(step, 0));
         }
@@ -441,48 +413,48 @@ public final class PromisesTest {
             Expect.refuses("at(0, " + what + ")", INDEX, () -> w.at(0, what));
         }
         w.step(1, 0, 1, 0);
-        isAt("told behind the plan", w, 2, WorkPlans.NONE, WorkPlans.NONE);
-        isAt("the plan stays", w, 0, 3, 0);
+        Shops.isAt("told behind the plan", w, 2, WorkPlans.NONE, WorkPlans.NONE);
+        Shops.isAt("the plan stays", w, 0, 3, 0);
         w.run(9);
-        isAt("planned", w, 2, 3, 0);
+        Shops.isAt("planned", w, 2, 3, 0);
     }
 
     private static void promise10Order() {
-        WorkPlans w = oneMachine(9, 4, 3, 3);
+        WorkPlans w = Shops.oneMachine(9, 4, 3, 3);
         for (int k : new int[] {0, -1, 6, LOW, HIGH}) {
             Expect.refuses("order(" + k + ") without a plan", STATE, () -> w.order(k));
         }
         w.run(9);
-        orderIs("two jobs", w, 1, 0);
+        Shops.orderIs("two jobs", w, 1, 0);
         for (int k : new int[] {-1, 2, 6, LOW, HIGH}) {
             Expect.refuses("order(" + k + ")", INDEX, () -> w.order(k));
         }
         w.job(0, 0);
-        orderIs("a job told since has no place", w, 1, 0);
+        Shops.orderIs("a job told since has no place", w, 1, 0);
         w.run(9);
-        orderIs("three jobs", w, 2, 1, 0);
+        Shops.orderIs("three jobs", w, 2, 1, 0);
     }
 
     private static void promise11About() {
-        WorkPlans w = oneMachine(1, 9, 2, 1);
+        WorkPlans w = Shops.oneMachine(1, 9, 2, 1);
         for (int what : new int[] {-1, 4, LOW, HIGH}) {
             Expect.refuses("about(" + what + ")", INDEX, () -> w.about(what));
         }
         Expect.refuses("no plan", STATE, () -> w.about(3));
         w.run(1);
-        aboutIs("the first run", w, 16, 8, 1, 2);
+        Shops.aboutIs("the first run", w, 16, 8, 1, 2);
         w.run(1);
-        aboutIs("the same again", w, 16, 8, 1, 0);
+        Shops.aboutIs("the same again", w, 16, 8, 1, 0);
         w.improve(100);
-        aboutIs("improved: both steps elsewhere, nodes of the run", w, 9, 8, 1, 2);
+        Shops.aboutIs("improved: both steps elsewhere, nodes of the run", w, 9, 8, 1, 2);
         w.improve(1);
-        aboutIs("nothing more", w, 9, 8, 1, 0);
+        Shops.aboutIs("nothing more", w, 9, 8, 1, 0);
         w.due(0, 0);
-        aboutIs("what is told changes nothing", w, 9, 8, 1, 0);
+        Shops.aboutIs("what is told changes nothing", w, 9, 8, 1, 0);
         w.step(w.job(100, 1), 0, 2, 0);
-        aboutIs("a job told changes nothing", w, 9, 8, 1, 0);
+        Shops.aboutIs("a job told changes nothing", w, 9, 8, 1, 0);
         w.run(1);
-        aboutIs("two steps elsewhere and a new one", w, 9 + 8, 9, 1, 3);
+        Shops.aboutIs("two steps elsewhere and a new one", w, 9 + 8, 9, 1, 3);
         w.machine(0);
         w.run(2000);
         Expect.answers("two machines: cost", 9, () -> w.about(0));
@@ -490,15 +462,8 @@ public final class PromisesTest {
         Expect.answers("another machine or hour", 2, () -> w.about(3));
     }
 
-    private static void aboutIs(String what, WorkPlans w, long... due) {
-        for (int i = 0; i < due.length; i++) {
-            int which = i;
-            Expect.answers(what + ": about(" + i + ")", due[i], () -> w.about(which));
-        }
-    }
-
     private static void promise12Alone() {
-        WorkPlans w = oneMachine(1, 9, 2, 1);
+        WorkPlans w = Shops.oneMachine(1, 9, 2, 1);
         for (int job : new int[] {-1, 2, 6, LOW, HIGH}) {
             Expect.refuses("alone(" + job + ")", INDEX, () -> w.alone(job));
         }
@@ -514,7 +479,7 @@ public final class PromisesTest {
         Expect.answers("a job without steps ends at 0", 0, () -> w.alone(2));
         w.step(w.job(0, 0), 0, 100, 0);
         Expect.answers("no weight, no cost", 0, () -> w.alone(3));
-        isAt("the plan stays", w, 1, 0, 0);
+        Shops.isAt("the plan stays", w, 1, 0, 0);
     }
 
     private static void promise13Promise() {
@@ -527,13 +492,13 @@ public final class PromisesTest {
         w.step(w.job(3, 1), 0, 1, 9);
         w.job(4, 1);
         w.run(1);
-        isAt("planned", w, 2, 4, 0);
-        isAt("planned", w, 3, 6, 0);
+        Shops.isAt("planned", w, 2, 4, 0);
+        Shops.isAt("planned", w, 3, 6, 0);
         Expect.answers("the first stays", 4, () -> w.promise(0));
         Expect.answers("the second stays", 6, () -> w.promise(1));
         Expect.answers("the third stays", 7, () -> w.promise(2));
         Expect.answers("no steps", 0, () -> w.promise(3));
-        isAt("the plan stays", w, 3, 6, 0);
+        Shops.isAt("the plan stays", w, 3, 6, 0);
 
         WorkPlans behind = new WorkPlans(0);
         behind.machine(0);
@@ -543,14 +508,14 @@ public final class PromisesTest {
         behind.step(1, 0, 1, 0);
         behind.step(behind.job(2, 1), 0, 7, 0);
         behind.run(1);
-        isAt("a job that had to go behind", behind, 3, 7, 0);
-        isAt("a gap that it could not use", behind, 2, 6, 0);
+        Shops.isAt("a job that had to go behind", behind, 3, 7, 0);
+        Shops.isAt("a gap that it could not use", behind, 2, 6, 0);
         Expect.answers("it stays behind what is placed", 14, () -> behind.promise(2));
         Expect.answers("its own hours are free for it", 7, () -> behind.promise(1));
     }
 
     private static void promise13Refusals() {
-        WorkPlans w = oneMachine(1, 9, 2, 1);
+        WorkPlans w = Shops.oneMachine(1, 9, 2, 1);
         for (int job : new int[] {-1, 2, 6, LOW, HIGH}) {
             Expect.refuses("promise(" + job + ") without a plan", INDEX, () -> w.promise(job));
         }
@@ -559,7 +524,7 @@ public final class PromisesTest {
     }
 
     private static void promise14Clash() {
-        WorkPlans w = oneMachine(4, 3, 4, 2, 5, 2, 6, 3, 2, 3);
+        WorkPlans w = Shops.oneMachine(4, 3, 4, 2, 5, 2, 6, 3, 2, 3);
         Expect.answers("3 and 2 hours, both due at 4", 1, () -> w.clash(0));
         Expect.answers("3 and 2 hours by 4 and 5, 3 and 3 by 6: none", WorkPlans.NONE, () -> w.clash(1));
         Expect.answers("jobs that are late alone do not clash", WorkPlans.NONE, () -> w.clash(HIGH));
@@ -580,7 +545,7 @@ public final class PromisesTest {
     }
 
     private static void promise14Edges() {
-        WorkPlans w = oneMachine(4, 4, 4, 4);
+        WorkPlans w = Shops.oneMachine(4, 4, 4, 4);
         Expect.answers("a clash without a plan", 1, () -> w.clash(0));
         Expect.refuses("below 0", ARGUMENT, () -> w.clash(-1));
         w.step(w.job(0, 0), 0, 9, 0);
@@ -594,7 +559,7 @@ public final class PromisesTest {
     }
 
     private static void promise15Check() {
-        WorkPlans w = oneMachine(4, 4, 8, 4);
+        WorkPlans w = Shops.oneMachine(4, 4, 8, 4);
         Expect.refuses("no plan", STATE, w::check);
         w.run(9);
         Expect.answers("ends at due", 0, w::check);
@@ -621,7 +586,7 @@ public final class PromisesTest {
     }
 
     private static void promise15RulesApart() {
-        WorkPlans w = oneMachine(4, 4, 3, 4);
+        WorkPlans w = Shops.oneMachine(4, 4, 3, 4);
         w.run(9);
         w.out(0, 0, 1);
         w.step(0, 0, 1, 0);
@@ -652,7 +617,7 @@ public final class PromisesTest {
         Expect.answers("full: run", 0, () -> w.run(2000));
         Expect.answers("full: one machine each", 6 * 100 * 1499 - 100 * 15, () -> w.about(0));
         Expect.answers("full: bound", w.about(0), () -> w.about(1));
-        isAt("full: last step", w, 23, 1399, 5);
+        Shops.isAt("full: last step", w, 23, 1399, 5);
         Expect.answers("full: promise", 1499, () -> w.promise(5));
         Expect.answers("full: improve", 0, () -> w.improve(100));
         Expect.answers("full: check", 500, w::check);
@@ -669,7 +634,7 @@ public final class PromisesTest {
             }
         }
         one.run(2000);
-        isAt("one machine: the last of 24", one, 23, 15 + 46, 0);
+        Shops.isAt("one machine: the last of 24", one, 23, 15 + 46, 0);
         Expect.answers("one machine: promise", 15 + 48, () -> one.promise(5));
     }
 }
