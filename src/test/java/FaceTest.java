@@ -7,54 +7,87 @@ import java.util.Set;
 import java.util.TreeSet;
 import java.util.stream.Collectors;
 
-/** The class shows what the document's face has, and nothing else. */
+/** The class shows each line of the document's face, and nothing else. */
 public final class FaceTest {
+    private static final String SECTION = "The public face";
     private static final String[] METHODS = {
-        "int machine(int) IllegalArgumentException IllegalStateException",
-        "int out(int int int) IndexOutOfBoundsException IllegalArgumentException IllegalStateException",
-        "int job(int int) IllegalArgumentException IllegalStateException",
-        "void due(int int) IndexOutOfBoundsException IllegalArgumentException",
-        "int step(int int int int) IndexOutOfBoundsException IllegalArgumentException IllegalStateException",
-        "int run(int) IllegalArgumentException IllegalStateException",
-        "int improve(int) IllegalArgumentException IllegalStateException",
-        "int at(int int) IndexOutOfBoundsException IllegalStateException",
-        "int order(int) IllegalStateException IndexOutOfBoundsException",
-        "long about(int) IndexOutOfBoundsException IllegalStateException",
-        "long alone(int) IndexOutOfBoundsException IllegalStateException",
-        "int promise(int) IndexOutOfBoundsException IllegalStateException",
-        "int clash(int) IllegalArgumentException IllegalStateException",
-        "int check() IllegalStateException",
+        "public int machine(int kind) throws IllegalArgumentException, IllegalStateException;",
+        "public int out(int machine, int from, int to)"
+            + " throws IndexOutOfBoundsException, IllegalArgumentException, IllegalStateException;",
+        "public int job(int due, int weight) throws IllegalArgumentException, IllegalStateException;",
+        "public void due(int job, int due) throws IndexOutOfBoundsException, IllegalArgumentException;",
+        "public int step(int job, int kind, int hours, int wait)"
+            + " throws IndexOutOfBoundsException, IllegalArgumentException, IllegalStateException;",
+        "public int run(int nodes) throws IllegalArgumentException, IllegalStateException;",
+        "public int improve(int n) throws IllegalArgumentException, IllegalStateException;",
+        "public int at(int step, int what) throws IndexOutOfBoundsException, IllegalStateException;",
+        "public int order(int k) throws IllegalStateException, IndexOutOfBoundsException;",
+        "public long about(int what) throws IndexOutOfBoundsException, IllegalStateException;",
+        "public long alone(int job) throws IndexOutOfBoundsException, IllegalStateException;",
+        "public int promise(int job) throws IndexOutOfBoundsException, IllegalStateException;",
+        "public int clash(int k) throws IllegalArgumentException, IllegalStateException;",
+        "public int check() throws IllegalStateException;",
     };
 
     public static void main(String[] args) {
-        Set<String> methods = new TreeSet<>();
-        for (Method m : WorkPlans.class.getDeclaredMethods()) {
-            if (!Modifier.isPrivate(m.getModifiers())) {
-                methods.add(m.getReturnType().getSimpleName() + " " + m.getName() + "("
-                    + names(m.getParameterTypes()) + ") " + names(m.getExceptionTypes()));
-            }
+        Sentences document = new Sentences(SECTION);
+        document.more(1, SECTION, "public final class WorkPlans {", FaceTest::theClass);
+        document.more(1, SECTION, "public static final int NONE = -1;", FaceTest::theConstant);
+        document.more(1, SECTION, "public WorkPlans(int seed);", FaceTest::theConstructor);
+        Set<String> shown = shownMethods();
+        for (int i = 0; i < METHODS.length; i++) {
+            String line = withoutNames(METHODS[i]);
+            document.more(2 + i, SECTION, METHODS[i],
+                () -> Expect.same("the class shows it", "true", Boolean.toString(shown.remove(line))));
         }
-        Expect.same("methods", new TreeSet<>(Arrays.asList(METHODS)).toString(), methods.toString());
+        Expect.part("Promise 1 (" + SECTION + ")", () -> Expect.same("shown beside it", "[]", shown.toString()));
+        document.end("FaceTest");
+    }
 
-        Set<String> fields = new TreeSet<>();
+    private static void theClass() {
+        Expect.same("the class", "public final", Modifier.toString(WorkPlans.class.getModifiers()));
+        Expect.same("what it extends", "Object", WorkPlans.class.getSuperclass().getSimpleName());
+        Expect.answers("what it implements", 0, () -> WorkPlans.class.getInterfaces().length);
+        Expect.same("its package", "", WorkPlans.class.getPackageName());
+    }
+
+    private static void theConstant() {
+        Set<String> shown = new TreeSet<>();
         for (Field f : WorkPlans.class.getDeclaredFields()) {
             if (!Modifier.isPrivate(f.getModifiers())) {
-                fields.add(Modifier.toString(f.getModifiers()) + " " + f.getType() + " " + f.getName());
+                shown.add(Modifier.toString(f.getModifiers()) + " " + f.getType() + " " + f.getName());
             }
         }
-        Expect.same("fields", "[public static final int NONE]", fields.toString());
-        Expect.answers("NONE", -1, () -> WorkPlans.NONE);
+        Expect.same("all fields that are shown", "[public static final int NONE]", shown.toString());
+        Expect.answers("its number", -1, () -> WorkPlans.NONE);
+    }
 
-        Set<String> constructors = new TreeSet<>();
+    private static void theConstructor() {
+        Set<String> shown = new TreeSet<>();
         for (Constructor<?> c : WorkPlans.class.getDeclaredConstructors()) {
-            constructors.add(Modifier.toString(c.getModifiers()) + "(" + names(c.getParameterTypes()) + ")");
+            shown.add(Modifier.toString(c.getModifiers()) + "(" + names(c.getParameterTypes()) + ")"
+                + names(c.getExceptionTypes()));
         }
-        Expect.same("constructors", "[public(int)]", constructors.toString());
-        Expect.same("the class", "public final", Modifier.toString(WorkPlans.class.getModifiers()));
-        Expect.end("FaceTest");
+        Expect.same("all constructors", "[public(int)]", shown.toString());
+    }
+
+    private static Set<String> shownMethods() {
+        Set<String> shown = new TreeSet<>();
+        for (Method m : WorkPlans.class.getDeclaredMethods()) {
+            if (!Modifier.isPrivate(m.getModifiers())) {
+                shown.add(Modifier.toString(m.getModifiers()) + " " + m.getReturnType().getSimpleName() + " "
+                    + m.getName() + "(" + names(m.getParameterTypes()) + ") throws " + names(m.getExceptionTypes()) + ";");
+            }
+        }
+        return shown;
+    }
+
+    /** Compiled classes do not hold the names of parameters. */
+    private static String withoutNames(String line) {
+        return line.replaceAll("int \\w+([,)])", "int$1");
     }
 
     private static String names(Class<?>[] types) {
-        return Arrays.stream(types).map(Class::getSimpleName).collect(Collectors.joining(" "));
+        return Arrays.stream(types).map(Class::getSimpleName).collect(Collectors.joining(", "));
     }
 }

@@ -77,7 +77,7 @@ final class Sentences {
 
     void end(String name) {
         for (Map.Entry<String, StringBuilder> e : unquoted.entrySet()) {
-            String left = e.getValue().toString().replaceAll("```(text)?|`[^`]*`:?", "");
+            String left = e.getValue().toString().replaceAll("```(text|java)?|`[^`]*`:?", "");
             for (String piece : left.split("\n")) {
                 if (piece.matches(".*[A-Za-z0-9].*")) {
                     Expect.same(e.getKey() + ": '" + piece.strip() + "'", "a test", "none");

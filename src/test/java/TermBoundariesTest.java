@@ -15,10 +15,6 @@ public final class TermBoundariesTest {
         improving(document);
         asking(document);
         refusing(document);
-        Expect.part("Promise 1 'An object is used for at most 512 calls after it has been made'",
-            TermBoundariesTest::all512Calls);
-        Expect.part("Promise 1 'public static final int NONE = -1'",
-            () -> Expect.answers("NONE", -1, () -> WorkPlans.NONE));
         document.end("TermBoundariesTest");
     }
 
@@ -1040,19 +1036,5 @@ public final class TermBoundariesTest {
         Expect.refuses("run: no fit", STATE, () -> bare.run(1));
         Expect.refuses("alone: no fit", STATE, () -> bare.alone(0));
         Expect.refuses("clash: no fit", STATE, () -> bare.clash(0));
-    }
-
-    /** The calls that have the most to do, from a new object up to its last promised call. */
-    private static void all512Calls() {
-        WorkPlans w = Shops.full(11);
-        int told = 6 + 6 * 8 + 6 + 24;
-        Expect.answers("a first run", 0, () -> w.run(2000));
-        Expect.answers("a first improve of the best", 0, () -> w.improve(100));
-        long cost = w.about(0);
-        for (int call = told + 3; call + 3 <= 512; call += 3) {
-            Expect.answers("run behind call " + call, 0, () -> w.run(2000));
-            Expect.answers("improve behind call " + call, 0, () -> w.improve(100));
-            Expect.answers("cost behind call " + call, cost, () -> w.about(0));
-        }
     }
 }
